@@ -1,0 +1,168 @@
+/** Promises 17 to 20: letter, giveIn, served, fewest. */
+public final class LetterTest {
+    public static void main(String[] args) {
+        letters();
+        lettersGoIntoTheBagBehindTheChange();
+        lettersTowardTheEnd();
+        giveIn();
+        giveInAsLettersCome();
+        served();
+        fewest();
+        fewestWithoutTheOthers();
+        noHouses();
+        wrongNumbers();
+        Check.end();
+    }
+
+    private static void letterIs(PostmenMeet x, int from, int minute, int to, int bag, int comes) {
+        String call = "letter(" + from + ", " + minute + ", " + to + ", ";
+        Check.due(call + "0)", x.letter(from, minute, to, 0), bag);
+        Check.due(call + "1)", x.letter(from, minute, to, 1), comes);
+    }
+
+    private static void letters() {
+        PostmenMeet x = Check.road("10;00u00;10d00;04u00");
+        letterIs(x, 5, 3, 0, 1, 20);
+        letterIs(x, 0, 0, 0, 0, 0);
+        letterIs(x, 10, 0, 10, 1, 0);
+        letterIs(x, 0, 0, 10, 0, 20);
+        letterIs(x, 4, 0, 10, 2, 12);
+        letterIs(x, 4, 1, 10, 0, 20);
+    }
+
+    private static void lettersGoIntoTheBagBehindTheChange() {
+        PostmenMeet x = Check.road("10;00u00;10d00");
+        letterIs(x, 5, 5, 0, 1, 20);
+        letterIs(x, 5, 5, 10, 1, 40);
+        x.law(0, 1);
+        letterIs(x, 5, 5, 0, 0, 20);
+        letterIs(x, 5, 5, 10, 0, PostmenMeet.NONE);
+    }
+
+    private static void lettersTowardTheEnd() {
+        PostmenMeet x = Check.road("10;00u00");
+        letterIs(x, 0, 199, 0, 0, 400);
+        letterIs(x, 0, 199, 10, 0, PostmenMeet.NONE);
+        letterIs(x, 2, 199, 0, PostmenMeet.NONE, PostmenMeet.NONE);
+        letterIs(x, 1, 199, 0, 0, 400);
+        PostmenMeet empty = Check.road("10;h01");
+        letterIs(empty, 0, 0, 0, PostmenMeet.NONE, PostmenMeet.NONE);
+    }
+
+    private static void giveInIs(PostmenMeet x, int to, int time, int house, int minute) {
+        String call = "giveIn(" + to + ", " + time + ", ";
+        Check.due(call + "0)", x.giveIn(to, time, 0), house);
+        Check.due(call + "1)", x.giveIn(to, time, 1), minute);
+    }
+
+    private static void giveIn() {
+        PostmenMeet x = Check.road("10;00u00;h00;h00;h05");
+        giveInIs(x, 10, 20, 2, 5);
+        giveInIs(x, 10, 19, PostmenMeet.NONE, PostmenMeet.NONE);
+        giveInIs(x, 10, 59, 2, 5);
+        giveInIs(x, 0, 0, 0, 0);
+        giveInIs(x, 0, 39, 0, 0);
+        giveInIs(x, 0, 40, 0, 20);
+        giveInIs(x, 0, 400, 0, 199);
+        PostmenMeet same = Check.road("10;00u00;h05;h00;h05");
+        giveInIs(same, 10, 20, 0, 5);
+        PostmenMeet none = Check.road("10;00u00");
+        giveInIs(none, 0, 400, PostmenMeet.NONE, PostmenMeet.NONE);
+    }
+
+    /** A letter given in later may come sooner, by another bag: so all minutes are looked at. */
+    private static void giveInAsLettersCome() {
+        for (int to = 0; to <= 10; to++) {
+            for (int time = 0; time <= 60; time += 3) {
+                PostmenMeet x = Check.road("10;06u00;04d00;h05;h10");
+                x.law(0, 2);
+                int[] want = latestByCalls(x, to, time);
+                giveInIs(x, to, time, want[0], want[1]);
+            }
+        }
+    }
+
+    private static int[] latestByCalls(PostmenMeet x, int to, int time) {
+        for (int minute = 199; minute >= 0; minute--) {
+            for (int house = 0; house < 2; house++) {
+                int comes = x.letter(house == 0 ? 5 : 10, minute, to, 1);
+                if (comes != PostmenMeet.NONE && comes <= time) {
+                    return new int[] {house, minute};
+                }
+            }
+        }
+        return new int[] {PostmenMeet.NONE, PostmenMeet.NONE};
+    }
+
+    private static void served() {
+        PostmenMeet x = Check.road("10;00u00;h00");
+        Check.due("a row less one minute", x.served(19, 20), 1);
+        Check.due("he is there at 0, 40", x.served(40, 20), 1);
+        Check.due("one row", x.served(19, 10), 1);
+        Check.due("the next would begin at 2 n", x.served(20, 10), 0);
+        Check.due("three rows", x.served(39, 10), 0);
+        Check.due("the third row is not whole", x.served(38, 13), 1);
+        Check.due("the third row is whole", x.served(39, 13), 0);
+        Check.due("all", x.served(200, 20), 1);
+        PostmenMeet two = Check.road("10;00u00;10d00;h00;h10");
+        Check.due("two men, two houses", two.served(200, 20), 1);
+        Check.due("each house", two.served(200, 9), 0);
+    }
+
+    private static void fewest() {
+        PostmenMeet x = Check.road("10;00u00;10d00;04u00;h05;h00");
+        Check.due("two", x.fewest(40, 10), 3);
+        Check.due("one", x.fewest(40, 20), 1);
+        Check.due("no row, nobody", x.fewest(40, 99), 0);
+        Check.due("nobody serves", x.fewest(40, 5), PostmenMeet.NONE);
+        PostmenMeet y = Check.road("10;00u00;05u40;h05");
+        Check.due("fewer is ahead of lesser bits", y.fewest(30, 1), 2);
+    }
+
+    /** Man 1 turns man 0 back ahead of the house; without him man 0 comes there. */
+    private static void fewestWithoutTheOthers() {
+        PostmenMeet x = Check.road("04;00u00;02u03;h04");
+        x.law(0, 1);
+        Check.due("by both", x.served(8, 8), 0);
+        Check.due("by one", x.fewest(8, 8), 1);
+        PlainPostmen plain = new PlainPostmen();
+        for (char c : "04;00u00;02u03;h04".toCharArray()) {
+            plain.type(c);
+        }
+        plain.law(0, 1);
+        for (int n = 1; n <= 40; n++) {
+            for (int g = 1; g <= 12; g++) {
+                Check.due("served " + n + " " + g, x.served(n, g), plain.served(n, g));
+                Check.due("fewest " + n + " " + g, x.fewest(n, g), plain.fewest(n, g));
+            }
+        }
+    }
+
+    private static void noHouses() {
+        PostmenMeet x = Check.road("10;00u00");
+        Check.due("served", x.served(200, 1), 1);
+        Check.due("fewest", x.fewest(200, 1), 0);
+        PostmenMeet y = Check.road("10;h00");
+        Check.due("served by nobody", y.served(1, 1), 0);
+        Check.due("fewest of nobody", y.fewest(1, 1), PostmenMeet.NONE);
+        Check.due("no row at all", y.served(1, 2), 1);
+    }
+
+    private static void wrongNumbers() {
+        PostmenMeet x = Check.road("10;00u00;h05");
+        int[][] bad = {{-1, 0, 0, 0}, {11, 0, 0, 0}, {0, -1, 0, 0}, {0, 200, 0, 0}, {0, 0, -1, 0}, {0, 0, 11, 0},
+            {0, 0, 0, -1}, {0, 0, 0, 2}};
+        for (int[] b : bad) {
+            Check.due("letter", x.letter(b[0], b[1], b[2], b[3]), PostmenMeet.BAD);
+        }
+        int[][] give = {{-1, 0, 0}, {11, 0, 0}, {0, -1, 0}, {0, 401, 0}, {0, 0, -1}, {0, 0, 2}};
+        for (int[] b : give) {
+            Check.due("giveIn", x.giveIn(b[0], b[1], b[2]), PostmenMeet.BAD);
+        }
+        int[][] spans = {{0, 1}, {201, 1}, {-1, 1}, {1, 0}, {1, 100}, {1, -1}};
+        for (int[] b : spans) {
+            Check.due("served", x.served(b[0], b[1]), PostmenMeet.BAD);
+            Check.due("fewest", x.fewest(b[0], b[1]), PostmenMeet.BAD);
+        }
+    }
+}
