@@ -53,13 +53,15 @@ public final class PostmenMeet {
             return FULL;
         }
         road.append(b);
+        road.parse();
         stale = true;
         return road.bytes;
     }
 
     public int wipe() {
         int had = road.bytes;
-        road.clear();
+        road.bytes = 0;
+        road.parse();
         stale = true;
         return had;
     }
@@ -307,7 +309,8 @@ public final class PostmenMeet {
         refresh();
         int many = 0;
         for (int l = 0; l < letters.size; l++) {
-            if (course.comes(letters.from[l], letters.minute[l], letters.to[l]) != letters.told[l]) {
+            int comes = course.comes(letters.from[l], letters.minute[l], letters.to[l]);
+            if (comes != letters.told[l]) {
                 many++;
             }
         }
@@ -579,7 +582,7 @@ public final class PostmenMeet {
         return first ? NONE : many;
     }
 
-    /** Where the bit of two men stands in the pairs of a half minute; each two have one each way. */
+    /** Where the bit of two men stands in the pairs of a half minute; two have one each way. */
     private static int pairShift(int a, int b) {
         return MOST_MEN * a + b;
     }
@@ -602,12 +605,6 @@ public final class PostmenMeet {
                 text[bytes] = b;
                 bytes++;
             }
-            parse();
-        }
-
-        private void clear() {
-            bytes = 0;
-            parse();
         }
 
         private void parse() {
@@ -772,17 +769,26 @@ public final class PostmenMeet {
             standTill[man] = 2 * (minute + many);
         }
 
+        /** Those of a place meet, if one of them was not where its first was half a minute ago. */
         private void step() {
             goOn();
             pairs = 0;
             int left = there;
             for (int i = 0; i < men; i++) {
-                if ((left >> i & 1) != 0) {
-                    int group = groupOf(i);
-                    left &= ~group;
-                    if (isFresh(group, i)) {
-                        meet(group);
+                if ((left >> i & 1) == 0) {
+                    continue;
+                }
+                int group = 1 << i;
+                boolean fresh = false;
+                for (int j = i + 1; j < men; j++) {
+                    if ((left >> j & 1) != 0 && place[j] == place[i]) {
+                        group |= 1 << j;
+                        fresh = fresh || before[j] != before[i];
                     }
+                }
+                left &= ~group;
+                if (fresh) {
+                    meet(group);
                 }
             }
         }
@@ -803,26 +809,6 @@ public final class PostmenMeet {
 
         private boolean isStanding(int man) {
             return time < setOut[man] || time >= standFrom[man] && time < standTill[man];
-        }
-
-        private int groupOf(int man) {
-            int group = 0;
-            for (int i = 0; i < men; i++) {
-                if ((there >> i & 1) != 0 && place[i] == place[man]) {
-                    group |= 1 << i;
-                }
-            }
-            return group;
-        }
-
-        /** Two of the group were apart just if one of them was apart from its first. */
-        private boolean isFresh(int group, int first) {
-            for (int i = first + 1; i < men; i++) {
-                if ((group >> i & 1) != 0 && before[i] != before[first]) {
-                    return true;
-                }
-            }
-            return false;
         }
 
         private void meet(int group) {
@@ -988,7 +974,7 @@ public final class PostmenMeet {
             return taken == NONE ? NONE : bagComes(bagThere(from, taken), taken, to);
         }
 
-        /** Goes back in time: it knows then which bags come in time, and who next is on the pace. */
+        /** Goes back in time, so that it knows which bags come in time and who takes the letter. */
         private int latestMinute(int from, int to, int time) {
             int inTime = 0;
             boolean comes = false;

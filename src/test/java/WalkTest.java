@@ -12,6 +12,7 @@ public final class WalkTest {
         countsUpToATime();
         asItWas();
         noMen();
+        changesAreSeen();
         wrongNumbers();
         Check.end();
     }
@@ -191,6 +192,28 @@ public final class WalkTest {
         Check.due("meetings", x.meetings(400), 0);
         Check.due("true", x.isTrue(400), 1);
         Check.due("again", x.again(), 1);
+    }
+
+    /** Each act behind an answer is seen by the next. */
+    private static void changesAreSeen() {
+        PostmenMeet x = Check.road("10;00u00");
+        manIs(x, 0, 11, 11, 1, 0);
+        Check.type(x, ";10d00");
+        manIs(x, 0, 11, 9, -1, 1);
+        x.law(0, 2);
+        manIs(x, 0, 11, 11, 1, 1);
+        x.stand(0, 0, 9);
+        manIs(x, 0, 11, 0, 1, 0);
+        Check.type(x, ";02u00");
+        manIs(x, 2, 11, 15, 1, 1);
+        x.law(1, 1);
+        x.wipe();
+        Check.due("again, wiped", x.again(), 1);
+        Check.type(x, "06;01u00;05d00;03u05");
+        x.stand(0, 0, 0);
+        manIs(x, 0, 4, 6, -1, 2);
+        x.law(1, 0);
+        manIs(x, 0, 4, 6, 1, 0);
     }
 
     private static void wrongNumbers() {
