@@ -7,6 +7,7 @@ public final class StoodTest {
         forgetting();
         late();
         stood();
+        stoodAt400();
         stoodInsteadOfWhatWasTold();
         stoodOfMore();
         stoodWithoutLetters();
@@ -120,6 +121,16 @@ public final class StoodTest {
         x.came(0, 0, 5, 10);
         x.came(0, 0, 10, 26);
         stoodIs(x, 5, 503);
+    }
+
+    /** The man is on pace 5 at 400 just if he stood for 5 minutes, at 398 if for 4. */
+    private static void stoodAt400() {
+        PostmenMeet x = Check.road("10;00u00");
+        x.came(5, 199, 5, 400);
+        stoodIs(x, 31, 5);
+        x.forget();
+        x.came(5, 199, 5, PostmenMeet.NONE);
+        stoodIs(x, 248, 1);
     }
 
     private static void stoodInsteadOfWhatWasTold() {
