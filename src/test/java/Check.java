@@ -1,7 +1,13 @@
+import java.lang.reflect.Method;
+import java.util.Comparator;
+import java.util.List;
+import java.util.stream.Stream;
+
 /** What the tests share: counts wrong answers, types roads, ends with exit code 1 if one was wrong. */
 final class Check {
     private static int wrong = 0;
     private static int asked = 0;
+    private static String test = "";
 
     private Check() {
     }
@@ -11,7 +17,7 @@ final class Check {
         if (got != want) {
             wrong++;
             if (wrong <= 40) {
-                System.out.println(call + " answered " + got + ", due is " + want);
+                System.out.println(test + call + " answered " + got + ", due is " + want);
             }
         }
     }
@@ -31,9 +37,35 @@ final class Check {
     }
 
     static void type(PostmenMeet x, String text) {
+        int had = x.count(3);
         for (int i = 0; i < text.length(); i++) {
-            due("type a byte of " + text, x.type(text.charAt(i)), x.count(3));
+            due("type byte " + i + " of " + text, x.type(text.charAt(i)), had + i + 1);
         }
+    }
+
+    static String two(int n) {
+        return n < 10 ? "0" + n : Integer.toString(n);
+    }
+
+    /** The numbers just outside of least to most, and those farthest from them. */
+    static int[] outside(int least, int most) {
+        return new int[] {Integer.MIN_VALUE, least - 1, most + 1, Integer.MAX_VALUE};
+    }
+
+    /** The tests of a class are its methods named by a promise: promise7LawOfTwo. */
+    static List<Method> named(Class<?> tests) {
+        return Stream.of(tests.getDeclaredMethods()).filter(m -> m.getName().matches("promise[1-9].*"))
+                .sorted(Comparator.comparing(Method::getName)).toList();
+    }
+
+    static void each(Class<?> tests) throws ReflectiveOperationException {
+        for (Method m : named(tests)) {
+            int before = asked;
+            test = m.getName() + ": ";
+            m.invoke(null);
+            holds("asks something", asked > before);
+        }
+        end();
     }
 
     static void end() {
