@@ -82,6 +82,7 @@ public final class LetterEdgesTest {
 
     static void promise17NeverTaken() {
         letterIs(Check.road("10;00u00"), 2, 199, 2, NONE, NONE);
+        letterIs(Check.road("09;02u00"), 2, 199, 2, NONE, NONE);
         letterIs(Check.road("10;h05"), 5, 0, 5, NONE, NONE);
     }
 

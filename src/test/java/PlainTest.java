@@ -1,9 +1,24 @@
+import java.lang.reflect.Method;
+import java.util.Arrays;
+import java.util.Comparator;
+import java.util.HashSet;
+import java.util.List;
 import java.util.Random;
+import java.util.Set;
+import java.util.stream.Stream;
 
 /** All promises: runs of calls from fixed seeds, each answer held against PlainPostmen's. */
 public final class PlainTest {
-    private static final int RUNS = 240;
+    private static final int RUNS = 360;
     private static final int STOOD_RUNS = 10;
+    private static final int EDGE_RUNS = 120;
+    /** Numbers at, just inside and just outside of all that the document tells. */
+    private static final int[] EDGES = {Integer.MIN_VALUE, -2, -1, 0, 1, 2, 3, 4, 5, 6, 7, 12, 13, 39, 40, 41, 59, 60,
+        61, 98, 99, 100, 198, 199, 200, 201, 255, 256, 399, 400, 401, Integer.MAX_VALUE};
+    /** All calls but those that are dear to the plain writing; the others' runs have them. */
+    private static final List<Method> CALLS = Stream.of(PostmenMeet.class.getDeclaredMethods())
+            .filter(m -> m.toString().startsWith("public int") && !m.getName().equals("stood"))
+            .sorted(Comparator.comparing(Method::getName)).toList();
 
     private final Random random;
     private final PostmenMeet x = new PostmenMeet();
@@ -16,18 +31,38 @@ public final class PlainTest {
         run = "seed " + seed + ": ";
     }
 
-    public static void main(String[] args) {
+    public static void main(String[] args) throws ReflectiveOperationException {
         for (int seed = 0; seed < RUNS && Check.wrongSoFar() == 0; seed++) {
             new PlainTest(seed).mixedRun();
         }
         for (int seed = 0; seed < STOOD_RUNS && Check.wrongSoFar() == 0; seed++) {
             new PlainTest(1000 + seed).stoodRun();
         }
+        for (int seed = 0; seed < EDGE_RUNS && Check.wrongSoFar() == 0; seed++) {
+            new PlainTest(2000 + seed).edgeRun();
+        }
         Check.end();
     }
 
+    private void edgeRun() throws ReflectiveOperationException {
+        newRoad();
+        for (int c = 0; c < 150; c++) {
+            Method call = CALLS.get(random.nextInt(CALLS.size()));
+            if (!List.of("wipe", "type").contains(call.getName()) || random.nextInt(20) == 0) {
+                Object[] numbers = new Object[call.getParameterCount()];
+                Arrays.setAll(numbers, i -> random.nextInt(3) == 0 ? EDGES[random.nextInt(EDGES.length)]
+                        : random.nextInt(4));
+                Method same = PlainPostmen.class.getDeclaredMethod(call.getName(), call.getParameterTypes());
+                due(call.getName() + Arrays.toString(numbers), (int) call.invoke(x, numbers),
+                        (int) same.invoke(plain, numbers));
+                due("count(8)", x.count(8), plain.count(8));
+            }
+        }
+        due("digest()", x.digest(), plain.digest());
+    }
+
     private void mixedRun() {
-        for (int i = 0; i < 3; i++) {
+        for (int i = 0; i < 2; i++) {
             newRoad();
             for (int c = 0; c < 40; c++) {
                 call(random.nextInt(34));
@@ -62,17 +97,17 @@ public final class PlainTest {
     private void newRoad() {
         due("wipe()", x.wipe(), plain.wipe());
         length = random.nextInt(3) == 0 ? 1 + random.nextInt(40) : 1 + random.nextInt(12);
-        StringBuilder text = new StringBuilder(two(length));
+        StringBuilder text = new StringBuilder(Check.two(length));
         int men = 1 + random.nextInt(6);
-        java.util.Set<Integer> taken = new java.util.HashSet<>();
+        Set<Integer> taken = new HashSet<>();
         for (int i = 0; i < men; i++) {
             int p = random.nextInt(length + 1);
             if (taken.add(p) || random.nextInt(30) == 0) {
                 int minute = random.nextInt(3) == 0 ? random.nextInt(41) : 0;
-                text.append(';').append(two(p)).append(random.nextBoolean() ? 'u' : 'd').append(two(minute));
+                text.append(';').append(Check.two(p)).append(random.nextBoolean() ? 'u' : 'd').append(Check.two(minute));
             }
             if (random.nextInt(2) == 0) {
-                text.append(";h").append(two(random.nextInt(length + 1)));
+                text.append(";h").append(Check.two(random.nextInt(length + 1)));
             }
         }
         if (random.nextInt(8) == 0) {
@@ -92,10 +127,6 @@ public final class PlainTest {
         int two = random.nextInt(3), more = random.nextInt(2);
         due("law(0, " + two + ")", x.law(0, two), plain.law(0, two));
         due("law(1, " + more + ")", x.law(1, more), plain.law(1, more));
-    }
-
-    private static String two(int n) {
-        return n < 10 ? "0" + n : Integer.toString(n);
     }
 
     /** Mostly a number from 0 to one below n, at times one just outside. */

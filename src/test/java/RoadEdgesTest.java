@@ -233,6 +233,8 @@ public final class RoadEdgesTest {
         String six = "12" + SIX_MEN;
         faultIs(six, NONE);
         faultIs(six + ";", 39);
+        faultIs(six + ";0", 39);
+        faultIs(six + ";06x", 39);
         faultIs(six + ";06u00", 39);
         faultIs(six + ";99u99", 39);
         faultIs(six + ";h07;06u00", 43);
@@ -243,6 +245,8 @@ public final class RoadEdgesTest {
         String six = "12" + SIX_HOUSES;
         faultIs(six, NONE);
         faultIs(six + ";", 27);
+        faultIs(six + ";h", 27);
+        faultIs(six + ";hx", 27);
         faultIs(six + ";h06", 27);
         faultIs(six + ";h99", 27);
         faultIs(six + ";07u00;h06", 33);
@@ -266,6 +270,17 @@ public final class RoadEdgesTest {
         faultIs("12;05u00;05x", 9);
         faultIs("12;05u00;05u41", 9);
         faultIs("12x;", 2);
+    }
+
+    /** A number is looked at as soon as both its figures are there. */
+    static void promise4ANumberThatMayNotBeInATooShortText() {
+        faultIs("12;13", 3);
+        faultIs("12;h13", 4);
+        faultIs("12;05u00;05", 9);
+        faultIs("12;05u00;05d", 9);
+        faultIs("12;12u41", 6);
+        faultIs("12;12u4", 7);
+        faultIs("12;1", 4);
     }
 
     static void promise4OfEightyBytes() {

@@ -472,6 +472,24 @@ public final class SheetEdgesTest {
         }
     }
 
+    static void promise32EachByItsNumber() {
+        PostmenMeet x = Check.road("12;00u00;05d03;h01;h02;h12");
+        x.law(0, 1);
+        x.law(1, 1);
+        x.stand(0, 5, 4);
+        x.stand(1, 9, 7);
+        for (int i = 0; i < 7; i++) {
+            x.came(0, 0, 0, 0);
+        }
+        x.lay(0, 0, 0, 0);
+        x.sheet(0, 0, 1);
+        x.lay(0, 0, 1, 0);
+        int[] want = {12, 2, 3, 26, 7, 1, 1, 11, 2};
+        for (int what = 0; what < want.length; what++) {
+            Check.due("count(" + what + ")", x.count(what), want[what]);
+        }
+    }
+
     static void promise32NothingElse() {
         for (int what : Check.outside(0, 8)) {
             BUSY.bad("count(" + what + ")", x -> x.count(what));
@@ -552,6 +570,20 @@ public final class SheetEdgesTest {
         Check.due("digest()", y.digest(), byCalls(y));
     }
 
+    /** Roads of which the answers would be others a minute or half a minute away. */
+    static void promise33AtJustTheseTimes() {
+        PostmenMeet letters = Check.road("10;09d00;10d00;h00");
+        Check.holds("bags", letters.letter(0, 9, 0, 0) != letters.letter(0, 10, 0, 0));
+        Check.due("digest()", letters.digest(), byCalls(letters));
+        PostmenMeet comes = Check.road("10;00u00;h05");
+        Check.holds("minutes", comes.giveIn(0, 200, 1) != comes.giveIn(0, 199, 1));
+        Check.due("digest()", comes.digest(), byCalls(comes));
+        PostmenMeet leaves = Check.road("40;00u00;h00");
+        leaves.stand(0, 0, 39);
+        Check.holds("rows", leaves.served(60, 20) != leaves.served(59, 20));
+        Check.due("digest()", leaves.digest(), byCalls(leaves));
+    }
+
     private static long byCalls(PostmenMeet x) {
         BigInteger h = BigInteger.valueOf(17);
         for (int what = 0; what < 8; what++) {
@@ -563,7 +595,9 @@ public final class SheetEdgesTest {
             h = mixed(h, x.begins(m, 0), x.begins(m, 1), x.begins(m, 2));
             h = mixed(h, x.man(m, 50, 0), x.man(m, 50, 1), x.man(m, 50, 2));
             h = mixed(h, x.man(m, 400, 0), x.man(m, 400, 1), x.man(m, 400, 2));
-            h = mixed(h, x.namesOff(m, 77), x.met(m, m == men - 1 ? 0 : m + 1, 400), x.carried(m, m, 400));
+            h = mixed(h, x.namesOff(m, 77));
+            h = men == 1 ? h : mixed(h, x.met(m, m == men - 1 ? 0 : m + 1, 400));
+            h = mixed(h, x.carried(m, m, 400));
         }
         for (int k = 0; k < x.count(2); k++) {
             h = mixed(h, x.house(k), x.letter(0, 9, x.house(k), 0), x.letter(0, 9, x.house(k), 1));

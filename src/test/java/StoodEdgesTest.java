@@ -113,7 +113,7 @@ public final class StoodEdgesTest {
     }
 
     static void promise22TakesEachNumberFromItsItem() {
-        PostmenMeet x = withItems(Check.road("10;00u00"), 0, 1, 10, 60, 5, 15, 4, 32);
+        PostmenMeet x = withItems(Check.road("10;00u00"), 0, 1, 10, 60, 5, 16, 4, 72);
         readIs(x, 2, 2, 2);
         Check.due("late()", x.late(), 0);
         PostmenMeet never = Check.road("10;00u00");
@@ -183,6 +183,7 @@ public final class StoodEdgesTest {
         lateIs("10;00u00", 1, 199, 2, NONE, 0);
         lateIs("10;00u00", 1, 199, 2, 400, 1);
         lateIs("10;01d00", 1, 199, 0, NONE, 0);
+        lateIs("09;02u00", 2, 199, 2, NONE, 0);
     }
 
     static void promise24AtOnce() {

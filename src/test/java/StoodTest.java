@@ -7,11 +7,8 @@ public final class StoodTest {
         forgetting();
         late();
         stood();
-        stoodAt400();
         stoodInsteadOfWhatWasTold();
         stoodOfMore();
-        stoodWithoutLetters();
-        wrongNumbers();
         Check.end();
     }
 
@@ -123,16 +120,6 @@ public final class StoodTest {
         stoodIs(x, 5, 503);
     }
 
-    /** The man is on pace 5 at 400 just if he stood for 5 minutes, at 398 if for 4. */
-    private static void stoodAt400() {
-        PostmenMeet x = Check.road("10;00u00");
-        x.came(5, 199, 5, 400);
-        stoodIs(x, 31, 5);
-        x.forget();
-        x.came(5, 199, 5, PostmenMeet.NONE);
-        stoodIs(x, 248, 1);
-    }
-
     private static void stoodInsteadOfWhatWasTold() {
         PostmenMeet x = Check.road("10;00u00");
         x.stand(0, 3, 5);
@@ -181,25 +168,5 @@ public final class StoodTest {
             }
         }
         return PostmenMeet.NONE;
-    }
-
-    private static void stoodWithoutLetters() {
-        stoodIs(Check.road("10;00u00;01u00"), 620, 1);
-        stoodIs(Check.road("10;h00"), 0, PostmenMeet.NONE);
-        stoodIs(new PostmenMeet(), 0, PostmenMeet.NONE);
-    }
-
-    private static void wrongNumbers() {
-        PostmenMeet x = Check.road("10;00u00");
-        int[][] bad = {{-1, 0, 0, 0}, {41, 0, 0, 0}, {0, -1, 0, 0}, {0, 200, 0, 0}, {0, 0, -1, 0}, {0, 0, 41, 0},
-            {0, 0, 0, -2}, {0, 0, 0, 401}};
-        for (int[] b : bad) {
-            Check.due("came", x.came(b[0], b[1], b[2], b[3]), PostmenMeet.BAD);
-        }
-        Check.due("told", x.count(4), 0);
-        Check.due("read(-1)", x.read(-1), PostmenMeet.BAD);
-        Check.due("read(4)", x.read(4), PostmenMeet.BAD);
-        Check.due("stood(-1)", x.stood(-1), PostmenMeet.BAD);
-        Check.due("stood(2)", x.stood(2), PostmenMeet.BAD);
     }
 }

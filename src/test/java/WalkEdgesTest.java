@@ -521,6 +521,21 @@ public final class WalkEdgesTest {
         }
     }
 
+    /** Two who walk together meet a third at 22 and all go round: then just one of the bags goes otherwise. */
+    static void promise15EachBag() {
+        String[] roads = {"20;00u00;20d00;03u05", "20;00u00;03u05;20d00", "20;20d00;00u00;03u05"};
+        for (int bag = 0; bag < 3; bag++) {
+            PostmenMeet x = lawOfTwo(roads[bag], 2);
+            x.law(1, 1);
+            x.stand(bag == 2 ? 1 : 0, 3, 2);
+            isTrueIs(x, 22, 1);
+            isTrueIs(x, 23, 0);
+            for (int b = 0; b < 3; b++) {
+                Check.holds("bag " + b, b == bag != (x.bag(b, 23, 0) == x.namesOff(b, 23)));
+            }
+        }
+    }
+
     static void promise15NoOtherTime() {
         refusedTimes("isTrue", time -> x -> x.isTrue(time));
         new Refusal(PostmenMeet::new).bad("isTrue(401) without men", x -> x.isTrue(401));
@@ -563,6 +578,13 @@ public final class WalkEdgesTest {
         manIs(x, 0, 20, 10, 1, 1);
         manIs(x, 1, 20, 2, 1, 0);
         againIs(x, 40);
+    }
+
+    static void promise16WhenTheyMeetAtOnce() {
+        PostmenMeet x = Check.road("03;01u00;02d00");
+        manIs(x, 0, 0, 2, 1, 0);
+        manIs(x, 0, 1, 3, -1, 1);
+        againIs(x, 12);
     }
 
     private static PostmenMeet twoWhoStand(int many) {

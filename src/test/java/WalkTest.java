@@ -13,7 +13,6 @@ public final class WalkTest {
         asItWas();
         noMen();
         changesAreSeen();
-        wrongNumbers();
         Check.end();
     }
 
@@ -214,30 +213,5 @@ public final class WalkTest {
         manIs(x, 0, 4, 6, -1, 2);
         x.law(1, 0);
         manIs(x, 0, 4, 6, 1, 0);
-    }
-
-    private static void wrongNumbers() {
-        PostmenMeet x = Check.road("10;00u00;10d00");
-        int[][] bad = {{-1, 0, 0}, {2, 0, 0}, {0, -1, 0}, {0, 401, 0}, {0, 0, -1}};
-        for (int[] b : bad) {
-            Check.due("man", x.man(b[0], b[1], b[2]), PostmenMeet.BAD);
-            Check.due("bag", x.bag(b[0], b[1], b[2]), PostmenMeet.BAD);
-        }
-        Check.due("man(0, 0, 3)", x.man(0, 0, 3), PostmenMeet.BAD);
-        Check.due("bag(0, 0, 2)", x.bag(0, 0, 2), PostmenMeet.BAD);
-        int[][] pairs = {{-1, 0, 0}, {0, -1, 0}, {2, 0, 0}, {0, 2, 0}, {0, 1, -1}, {0, 1, 401}};
-        for (int[] b : pairs) {
-            Check.due("met", x.met(b[0], b[1], b[2]), PostmenMeet.BAD);
-            Check.due("carried", x.carried(b[0], b[1], b[2]), PostmenMeet.BAD);
-        }
-        Check.due("met(1, 1, 0)", x.met(1, 1, 0), PostmenMeet.BAD);
-        Check.due("carried(1, 1, 0)", x.carried(1, 1, 0), 0);
-        for (int time : new int[] {-1, 401}) {
-            Check.due("meetings", x.meetings(time), PostmenMeet.BAD);
-            Check.due("namesOff", x.namesOff(0, time), PostmenMeet.BAD);
-            Check.due("isTrue", x.isTrue(time), PostmenMeet.BAD);
-        }
-        Check.due("namesOff(2, 0)", x.namesOff(2, 0), PostmenMeet.BAD);
-        Check.due("namesOff(-1, 0)", x.namesOff(-1, 0), PostmenMeet.BAD);
     }
 }
