@@ -43,6 +43,26 @@ final class Check {
         }
     }
 
+    /** PLACE, direction and BAG, as many as are told. */
+    static void manIs(PostmenMeet x, int man, int time, int... want) {
+        for (int what = 0; what < want.length; what++) {
+            due("man(" + man + ", " + time + ", " + what + ")", x.man(man, time, what), want[what]);
+        }
+    }
+
+    /** PLACE, and who has it. */
+    static void bagIs(PostmenMeet x, int bag, int time, int place, int holder) {
+        due("bag(" + bag + ", " + time + ", 0)", x.bag(bag, time, 0), place);
+        due("bag(" + bag + ", " + time + ", 1)", x.bag(bag, time, 1), holder);
+    }
+
+    /** The BAG, and when it comes. */
+    static void letterIs(PostmenMeet x, int from, int minute, int to, int bag, int comes) {
+        String call = "letter(" + from + ", " + minute + ", " + to + ", ";
+        due(call + "0)", x.letter(from, minute, to, 0), bag);
+        due(call + "1)", x.letter(from, minute, to, 1), comes);
+    }
+
     static String two(int n) {
         return n < 10 ? "0" + n : Integer.toString(n);
     }

@@ -15,16 +15,10 @@ public final class LetterEdgesTest {
 
     // ---- promise 17
 
-    private static void letterIs(PostmenMeet x, int from, int minute, int to, int bag, int comes) {
-        String call = "letter(" + from + ", " + minute + ", " + to + ", ";
-        Check.due(call + "0)", x.letter(from, minute, to, 0), bag);
-        Check.due(call + "1)", x.letter(from, minute, to, 1), comes);
-    }
-
     static void promise17PacesFrom0ToLength() {
         PostmenMeet x = Check.road("10;00u00");
-        letterIs(x, 0, 0, 10, 0, 20);
-        letterIs(x, 10, 0, 0, 0, 40);
+        Check.letterIs(x, 0, 0, 10, 0, 20);
+        Check.letterIs(x, 10, 0, 0, 0, 40);
         for (int pace : Check.outside(0, 12)) {
             BUSY.bad("letter from " + pace, y -> y.letter(pace, 0, 0, 0));
             BUSY.bad("letter to " + pace, y -> y.letter(0, 0, pace, 1));
@@ -32,8 +26,8 @@ public final class LetterEdgesTest {
     }
 
     static void promise17PacesWithoutARoad() {
-        letterIs(new PostmenMeet(), 1, 0, 1, NONE, NONE);
-        letterIs(new PostmenMeet(), 0, 199, 0, NONE, NONE);
+        Check.letterIs(new PostmenMeet(), 1, 0, 1, NONE, NONE);
+        Check.letterIs(new PostmenMeet(), 0, 199, 0, NONE, NONE);
         Refusal empty = new Refusal(PostmenMeet::new);
         empty.bad("letter from 2", x -> x.letter(2, 0, 0, 0));
         empty.bad("letter to 2", x -> x.letter(0, 0, 2, 0));
@@ -41,8 +35,8 @@ public final class LetterEdgesTest {
 
     static void promise17MinutesFrom0To199() {
         PostmenMeet x = Check.road("10;00u00");
-        letterIs(x, 0, 0, 0, 0, 0);
-        letterIs(x, 1, 199, 1, 0, 398);
+        Check.letterIs(x, 0, 0, 0, 0, 0);
+        Check.letterIs(x, 1, 199, 1, 0, 398);
         for (int minute : Check.outside(0, 199)) {
             BUSY.bad("letter at minute " + minute, y -> y.letter(0, minute, 0, 0));
         }
@@ -57,60 +51,60 @@ public final class LetterEdgesTest {
 
     static void promise17ComesJustAt400() {
         PostmenMeet x = Check.road("10;00u00");
-        letterIs(x, 1, 199, 0, 0, 400);
-        letterIs(x, 2, 198, 0, 0, 400);
-        letterIs(x, 5, 195, 0, 0, 400);
+        Check.letterIs(x, 1, 199, 0, 0, 400);
+        Check.letterIs(x, 2, 198, 0, 0, 400);
+        Check.letterIs(x, 5, 195, 0, 0, 400);
     }
 
     static void promise17PutInJustAt400() {
         PostmenMeet x = Check.road("10;00u00");
-        letterIs(x, 0, 199, 0, 0, 400);
-        letterIs(x, 0, 199, 1, 0, NONE);
-        letterIs(x, 0, 181, 0, 0, 400);
-        letterIs(x, 0, 180, 0, 0, 360);
+        Check.letterIs(x, 0, 199, 0, 0, 400);
+        Check.letterIs(x, 0, 199, 1, 0, NONE);
+        Check.letterIs(x, 0, 181, 0, 0, 400);
+        Check.letterIs(x, 0, 180, 0, 0, 360);
     }
 
     /** The man comes to pace 0 at 2, 42, .., 402. */
     static void promise17NotBehind400() {
         PostmenMeet x = Check.road("10;01d00");
-        letterIs(x, 1, 199, 0, 0, NONE);
-        letterIs(x, 2, 199, 0, 0, NONE);
-        letterIs(x, 2, 199, 1, 0, 400);
-        letterIs(x, 0, 182, 0, NONE, NONE);
-        letterIs(x, 0, 181, 0, 0, 362);
+        Check.letterIs(x, 1, 199, 0, 0, NONE);
+        Check.letterIs(x, 2, 199, 0, 0, NONE);
+        Check.letterIs(x, 2, 199, 1, 0, 400);
+        Check.letterIs(x, 0, 182, 0, NONE, NONE);
+        Check.letterIs(x, 0, 181, 0, 0, 362);
     }
 
     static void promise17NeverTaken() {
-        letterIs(Check.road("10;00u00"), 2, 199, 2, NONE, NONE);
-        letterIs(Check.road("09;02u00"), 2, 199, 2, NONE, NONE);
-        letterIs(Check.road("10;h05"), 5, 0, 5, NONE, NONE);
+        Check.letterIs(Check.road("10;00u00"), 2, 199, 2, NONE, NONE);
+        Check.letterIs(Check.road("09;02u00"), 2, 199, 2, NONE, NONE);
+        Check.letterIs(Check.road("10;h05"), 5, 0, 5, NONE, NONE);
     }
 
     /** By change alone, bag 0 stays on the lower half of the road. */
     static void promise17TakenButNeverThere() {
         PostmenMeet x = withLaw("10;00u00;10d00", 2);
-        letterIs(x, 0, 0, 5, 0, 10);
-        letterIs(x, 0, 0, 6, 0, NONE);
-        letterIs(x, 0, 0, 10, 0, NONE);
+        Check.letterIs(x, 0, 0, 5, 0, 10);
+        Check.letterIs(x, 0, 0, 6, 0, NONE);
+        Check.letterIs(x, 0, 0, 10, 0, NONE);
     }
 
     static void promise17AtThatTimeOrBehindIt() {
         PostmenMeet x = Check.road("10;00u00");
-        letterIs(x, 0, 1, 0, 0, 40);
-        letterIs(x, 0, 20, 0, 0, 40);
-        letterIs(x, 0, 21, 0, 0, 80);
-        letterIs(x, 3, 3, 3, 0, 6);
-        letterIs(x, 3, 4, 3, 0, 34);
+        Check.letterIs(x, 0, 1, 0, 0, 40);
+        Check.letterIs(x, 0, 20, 0, 0, 40);
+        Check.letterIs(x, 0, 21, 0, 0, 80);
+        Check.letterIs(x, 3, 3, 3, 0, 6);
+        Check.letterIs(x, 3, 4, 3, 0, 34);
     }
 
     static void promise17OfTwoTheLesserNumber() {
-        letterIs(withLaw("10;10d00;00u00", 1), 5, 5, 0, 0, NONE);
-        letterIs(withLaw("10;00u00;10d00", 1), 5, 5, 0, 0, 20);
+        Check.letterIs(withLaw("10;10d00;00u00", 1), 5, 5, 0, 0, NONE);
+        Check.letterIs(withLaw("10;00u00;10d00", 1), 5, 5, 0, 0, 20);
     }
 
     static void promise17BehindWhatIsDoneThen() {
-        letterIs(withLaw("10;10d00;00u00", 0), 5, 5, 0, 1, 40);
-        letterIs(withLaw("10;00u00;10d00", 0), 5, 5, 0, 1, 20);
+        Check.letterIs(withLaw("10;10d00;00u00", 0), 5, 5, 0, 1, 40);
+        Check.letterIs(withLaw("10;00u00;10d00", 0), 5, 5, 0, 1, 20);
     }
 
     // ---- promise 18
@@ -304,11 +298,21 @@ public final class LetterEdgesTest {
         fewestIs("10;00u40;10u40;09d00;h00;h10", 8, 8, 3);
     }
 
-    /** Man 1 turns man 0 back ahead of the house. */
+    /** One man turns the other back ahead of the house, be his number greater or lesser. */
     static void promise20TheOthersNotBeingThereAtAll() {
-        PostmenMeet x = withLaw("04;00u00;02u03;h04", 1);
-        Check.due("served(8, 8)", x.served(8, 8), 0);
-        Check.due("fewest(8, 8)", x.fewest(8, 8), 1);
+        PostmenMeet greater = withLaw("04;00u00;02u03;h04", 1);
+        Check.due("served(8, 8)", greater.served(8, 8), 0);
+        Check.due("fewest(8, 8)", greater.fewest(8, 8), 1);
+        PostmenMeet lesser = withLaw("04;02u40;00u00;h04", 1);
+        Check.due("served(8, 8)", lesser.served(8, 8), 0);
+        Check.due("fewest(8, 8)", lesser.fewest(8, 8), 2);
+    }
+
+    /** Man 2 turns man 0 back to his house; man 1, who would do so sooner, is not there. */
+    static void promise20WhoIsThereMeets() {
+        PostmenMeet x = withLaw("12;00u00;04u40;06u40;h00;h06", 1);
+        Check.due("fewest(24, 12)", x.fewest(24, 12), 5);
+        Check.due("fewest(24, 8)", x.fewest(24, 8), 7);
     }
 
     static void promise20NoOtherNumbers() {

@@ -12,39 +12,33 @@ public final class LetterTest {
         Check.end();
     }
 
-    private static void letterIs(PostmenMeet x, int from, int minute, int to, int bag, int comes) {
-        String call = "letter(" + from + ", " + minute + ", " + to + ", ";
-        Check.due(call + "0)", x.letter(from, minute, to, 0), bag);
-        Check.due(call + "1)", x.letter(from, minute, to, 1), comes);
-    }
-
     private static void letters() {
         PostmenMeet x = Check.road("10;00u00;10d00;04u00");
-        letterIs(x, 5, 3, 0, 1, 20);
-        letterIs(x, 0, 0, 0, 0, 0);
-        letterIs(x, 10, 0, 10, 1, 0);
-        letterIs(x, 0, 0, 10, 0, 20);
-        letterIs(x, 4, 0, 10, 2, 12);
-        letterIs(x, 4, 1, 10, 0, 20);
+        Check.letterIs(x, 5, 3, 0, 1, 20);
+        Check.letterIs(x, 0, 0, 0, 0, 0);
+        Check.letterIs(x, 10, 0, 10, 1, 0);
+        Check.letterIs(x, 0, 0, 10, 0, 20);
+        Check.letterIs(x, 4, 0, 10, 2, 12);
+        Check.letterIs(x, 4, 1, 10, 0, 20);
     }
 
     private static void lettersGoIntoTheBagBehindTheChange() {
         PostmenMeet x = Check.road("10;00u00;10d00");
-        letterIs(x, 5, 5, 0, 1, 20);
-        letterIs(x, 5, 5, 10, 1, 40);
+        Check.letterIs(x, 5, 5, 0, 1, 20);
+        Check.letterIs(x, 5, 5, 10, 1, 40);
         x.law(0, 1);
-        letterIs(x, 5, 5, 0, 0, 20);
-        letterIs(x, 5, 5, 10, 0, PostmenMeet.NONE);
+        Check.letterIs(x, 5, 5, 0, 0, 20);
+        Check.letterIs(x, 5, 5, 10, 0, PostmenMeet.NONE);
     }
 
     private static void lettersTowardTheEnd() {
         PostmenMeet x = Check.road("10;00u00");
-        letterIs(x, 0, 199, 0, 0, 400);
-        letterIs(x, 0, 199, 10, 0, PostmenMeet.NONE);
-        letterIs(x, 2, 199, 0, PostmenMeet.NONE, PostmenMeet.NONE);
-        letterIs(x, 1, 199, 0, 0, 400);
+        Check.letterIs(x, 0, 199, 0, 0, 400);
+        Check.letterIs(x, 0, 199, 10, 0, PostmenMeet.NONE);
+        Check.letterIs(x, 2, 199, 0, PostmenMeet.NONE, PostmenMeet.NONE);
+        Check.letterIs(x, 1, 199, 0, 0, 400);
         PostmenMeet empty = Check.road("10;h01");
-        letterIs(empty, 0, 0, 0, PostmenMeet.NONE, PostmenMeet.NONE);
+        Check.letterIs(empty, 0, 0, 0, PostmenMeet.NONE, PostmenMeet.NONE);
     }
 
     private static void giveInIs(PostmenMeet x, int to, int time, int house, int minute) {

@@ -578,6 +578,10 @@ public final class SheetEdgesTest {
         PostmenMeet comes = Check.road("10;00u00;h05");
         Check.holds("minutes", comes.giveIn(0, 200, 1) != comes.giveIn(0, 199, 1));
         Check.due("digest()", comes.digest(), byCalls(comes));
+        PostmenMeet first = Check.road("40;40d00;h40");
+        first.stand(0, 0, 60);
+        Check.holds("houses", first.giveIn(0, 200, 0) != first.giveIn(0, 199, 0));
+        Check.due("digest()", first.digest(), byCalls(first));
         PostmenMeet leaves = Check.road("40;00u00;h00");
         leaves.stand(0, 0, 39);
         Check.holds("rows", leaves.served(60, 20) != leaves.served(59, 20));

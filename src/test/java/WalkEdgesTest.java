@@ -10,18 +10,6 @@ public final class WalkEdgesTest {
         Check.each(WalkEdgesTest.class);
     }
 
-    /** PLACE, direction and BAG, as many as are told. */
-    private static void manIs(PostmenMeet x, int man, int time, int... want) {
-        for (int what = 0; what < want.length; what++) {
-            Check.due("man(" + man + ", " + time + ", " + what + ")", x.man(man, time, what), want[what]);
-        }
-    }
-
-    private static void bagIs(PostmenMeet x, int bag, int time, int place, int holder) {
-        Check.due("bag(" + bag + ", " + time + ", 0)", x.bag(bag, time, 0), place);
-        Check.due("bag(" + bag + ", " + time + ", 1)", x.bag(bag, time, 1), holder);
-    }
-
     private static PostmenMeet standing(String road, int minute, int many) {
         PostmenMeet x = Check.road(road);
         x.stand(0, minute, many);
@@ -51,11 +39,11 @@ public final class WalkEdgesTest {
 
     static void promise9AtTimes0And400() {
         PostmenMeet up = Check.road("40;00u00");
-        manIs(up, 0, 0, 0, 1, 0);
-        manIs(up, 0, 400, 80, 1, 0);
+        Check.manIs(up, 0, 0, 0, 1, 0);
+        Check.manIs(up, 0, 400, 80, 1, 0);
         PostmenMeet down = Check.road("40;40d00");
-        manIs(down, 0, 0, 80, -1, 0);
-        manIs(down, 0, 400, 0, -1, 0);
+        Check.manIs(down, 0, 0, 80, -1, 0);
+        Check.manIs(down, 0, 400, 0, -1, 0);
     }
 
     static void promise9NoOtherTime() {
@@ -74,50 +62,50 @@ public final class WalkEdgesTest {
     }
 
     static void promise9HeSetsOutAtMinute00Or01Or40() {
-        manIs(Check.road("40;10u00"), 0, 1, 21);
+        Check.manIs(Check.road("40;10u00"), 0, 1, 21);
         PostmenMeet one = Check.road("40;10u01");
-        manIs(one, 0, 2, 20);
-        manIs(one, 0, 3, 21);
+        Check.manIs(one, 0, 2, 20);
+        Check.manIs(one, 0, 3, 21);
         PostmenMeet forty = Check.road("40;10u40");
-        manIs(forty, 0, 80, 20, 1, 0);
-        manIs(forty, 0, 81, 21, 1, 0);
+        Check.manIs(forty, 0, 80, 20, 1, 0);
+        Check.manIs(forty, 0, 81, 21, 1, 0);
     }
 
     static void promise9HeStandsFromMinute0() {
-        manIs(standing("40;10u00", 0, 0), 0, 1, 21);
+        Check.manIs(standing("40;10u00", 0, 0), 0, 1, 21);
         PostmenMeet one = standing("40;10u00", 0, 1);
-        manIs(one, 0, 2, 20);
-        manIs(one, 0, 3, 21);
+        Check.manIs(one, 0, 2, 20);
+        Check.manIs(one, 0, 3, 21);
         PostmenMeet most = standing("40;10u00", 0, 99);
-        manIs(most, 0, 198, 20);
-        manIs(most, 0, 199, 21);
+        Check.manIs(most, 0, 198, 20);
+        Check.manIs(most, 0, 199, 21);
     }
 
     static void promise9HeStandsFromMinute99() {
         PostmenMeet none = standing("40;10u00", 99, 0);
-        manIs(none, 0, 198, 58);
-        manIs(none, 0, 199, 59);
+        Check.manIs(none, 0, 198, 58);
+        Check.manIs(none, 0, 199, 59);
         PostmenMeet one = standing("40;10u00", 99, 1);
-        manIs(one, 0, 198, 58);
-        manIs(one, 0, 200, 58);
-        manIs(one, 0, 201, 59);
+        Check.manIs(one, 0, 198, 58);
+        Check.manIs(one, 0, 200, 58);
+        Check.manIs(one, 0, 201, 59);
         PostmenMeet most = standing("40;10u00", 99, 99);
-        manIs(most, 0, 396, 58);
-        manIs(most, 0, 397, 59);
-        manIs(most, 0, 400, 62);
+        Check.manIs(most, 0, 396, 58);
+        Check.manIs(most, 0, 397, 59);
+        Check.manIs(most, 0, 400, 62);
     }
 
     static void promise9HeStandsAroundSettingOut() {
         int[][] toldAndGoesAt = {{4, 2, 12}, {0, 5, 10}, {0, 4, 10}, {5, 1, 12}, {0, 6, 12}, {4, 1, 10}};
         for (int[] t : toldAndGoesAt) {
             PostmenMeet x = standing("40;10u05", t[0], t[1]);
-            manIs(x, 0, t[2], 20);
-            manIs(x, 0, t[2] + 1, 21);
+            Check.manIs(x, 0, t[2], 20);
+            Check.manIs(x, 0, t[2] + 1, 21);
         }
         PostmenMeet behind = standing("40;10u05", 6, 1);
-        manIs(behind, 0, 12, 22);
-        manIs(behind, 0, 14, 22);
-        manIs(behind, 0, 15, 23);
+        Check.manIs(behind, 0, 12, 22);
+        Check.manIs(behind, 0, 14, 22);
+        Check.manIs(behind, 0, 15, 23);
     }
 
     static void promise9TheRoadOfOnePace() {
@@ -125,98 +113,98 @@ public final class WalkEdgesTest {
         int[] facing = {1, 1, 1, -1, -1, 1, 1};
         PostmenMeet x = Check.road("01;00u00");
         for (int t = 0; t < places.length; t++) {
-            manIs(x, 0, t, places[t], facing[t]);
+            Check.manIs(x, 0, t, places[t], facing[t]);
         }
     }
 
     static void promise9HeTurnsAtAnEndAheadOfGoingOn() {
         PostmenMeet x = Check.road("40;40u00");
-        manIs(x, 0, 0, 80, 1);
-        manIs(x, 0, 1, 79, -1);
-        manIs(x, 0, 80, 0, -1);
-        manIs(x, 0, 81, 1, 1);
-        manIs(x, 0, 160, 80, 1);
-        manIs(x, 0, 161, 79, -1);
+        Check.manIs(x, 0, 0, 80, 1);
+        Check.manIs(x, 0, 1, 79, -1);
+        Check.manIs(x, 0, 80, 0, -1);
+        Check.manIs(x, 0, 81, 1, 1);
+        Check.manIs(x, 0, 160, 80, 1);
+        Check.manIs(x, 0, 161, 79, -1);
     }
 
     static void promise9HeDoesNotTurnAtAnEndThatHeDoesNotFace() {
-        manIs(Check.road("05;05d00"), 0, 1, 9, -1);
-        manIs(Check.road("05;00u00"), 0, 1, 1, 1);
+        Check.manIs(Check.road("05;05d00"), 0, 1, 9, -1);
+        Check.manIs(Check.road("05;00u00"), 0, 1, 1, 1);
     }
 
     static void promise9HeStandsAtTheEndThatHeFaces() {
         PostmenMeet high = Check.road("05;05u03");
-        manIs(high, 0, 6, 10, 1);
-        manIs(high, 0, 7, 9, -1);
+        Check.manIs(high, 0, 6, 10, 1);
+        Check.manIs(high, 0, 7, 9, -1);
         PostmenMeet low = Check.road("05;00d03");
-        manIs(low, 0, 6, 0, -1);
-        manIs(low, 0, 7, 1, 1);
+        Check.manIs(low, 0, 6, 0, -1);
+        Check.manIs(low, 0, 7, 1, 1);
         PostmenMeet arrived = standing("05;00u00", 5, 2);
-        manIs(arrived, 0, 14, 10, 1);
-        manIs(arrived, 0, 15, 9, -1);
+        Check.manIs(arrived, 0, 14, 10, 1);
+        Check.manIs(arrived, 0, 15, 9, -1);
     }
 
     static void promise9TwoMeetAtLength() {
         PostmenMeet both = Check.road("05;05u10;00u00");
-        manIs(both, 0, 9, 10, 1, 0);
-        manIs(both, 0, 10, 10, -1, 1);
-        manIs(both, 1, 10, 10, -1, 0);
-        manIs(both, 1, 11, 9, -1, 0);
-        manIs(both, 0, 20, 10, -1, 1);
-        manIs(both, 0, 21, 9, -1, 1);
+        Check.manIs(both, 0, 9, 10, 1, 0);
+        Check.manIs(both, 0, 10, 10, -1, 1);
+        Check.manIs(both, 1, 10, 10, -1, 0);
+        Check.manIs(both, 1, 11, 9, -1, 0);
+        Check.manIs(both, 0, 20, 10, -1, 1);
+        Check.manIs(both, 0, 21, 9, -1, 1);
         PostmenMeet turn = lawOfTwo("05;05u10;00u00", 1);
-        manIs(turn, 0, 10, 10, -1, 0);
-        manIs(turn, 1, 10, 10, -1, 1);
+        Check.manIs(turn, 0, 10, 10, -1, 0);
+        Check.manIs(turn, 1, 10, 10, -1, 1);
         PostmenMeet change = lawOfTwo("05;05u10;00u00", 2);
-        manIs(change, 0, 10, 10, 1, 1);
-        manIs(change, 1, 10, 10, 1, 0);
-        manIs(change, 1, 11, 9, -1, 0);
+        Check.manIs(change, 0, 10, 10, 1, 1);
+        Check.manIs(change, 1, 10, 10, 1, 0);
+        Check.manIs(change, 1, 11, 9, -1, 0);
     }
 
     static void promise9TwoMeetAt0() {
         PostmenMeet both = Check.road("05;00d10;05d00");
-        manIs(both, 0, 10, 0, 1, 1);
-        manIs(both, 1, 10, 0, 1, 0);
-        manIs(both, 1, 11, 1, 1, 0);
-        manIs(both, 0, 20, 0, 1, 1);
-        manIs(both, 0, 21, 1, 1, 1);
+        Check.manIs(both, 0, 10, 0, 1, 1);
+        Check.manIs(both, 1, 10, 0, 1, 0);
+        Check.manIs(both, 1, 11, 1, 1, 0);
+        Check.manIs(both, 0, 20, 0, 1, 1);
+        Check.manIs(both, 0, 21, 1, 1, 1);
         PostmenMeet change = lawOfTwo("05;00d10;05d00", 2);
-        manIs(change, 0, 10, 0, -1, 1);
-        manIs(change, 1, 10, 0, -1, 0);
-        manIs(change, 1, 11, 1, 1, 0);
+        Check.manIs(change, 0, 10, 0, -1, 1);
+        Check.manIs(change, 1, 10, 0, -1, 0);
+        Check.manIs(change, 1, 11, 1, 1, 0);
     }
 
     /** He who stood with his back to the end faces it now, and turns once more ahead of going on. */
     static void promise9HeIsTurnedTowardTheEnd() {
         PostmenMeet high = Check.road("05;05d10;00u00");
-        manIs(high, 0, 10, 10, 1, 1);
-        manIs(high, 0, 20, 10, 1, 1);
-        manIs(high, 0, 21, 9, -1, 1);
+        Check.manIs(high, 0, 10, 10, 1, 1);
+        Check.manIs(high, 0, 20, 10, 1, 1);
+        Check.manIs(high, 0, 21, 9, -1, 1);
         PostmenMeet low = Check.road("05;00u10;05d00");
-        manIs(low, 0, 10, 0, -1, 1);
-        manIs(low, 0, 20, 0, -1, 1);
-        manIs(low, 0, 21, 1, 1, 1);
+        Check.manIs(low, 0, 10, 0, -1, 1);
+        Check.manIs(low, 0, 20, 0, -1, 1);
+        Check.manIs(low, 0, 21, 1, 1, 1);
     }
 
     static void promise9OneWhoStandsFacesTheOtherWayFromThenOn() {
         PostmenMeet x = Check.road("10;00u00;05u06");
-        manIs(x, 1, 9, 10, 1, 1);
-        manIs(x, 1, 10, 10, -1, 0);
-        manIs(x, 1, 12, 10, -1, 0);
-        manIs(x, 1, 13, 9, -1, 0);
+        Check.manIs(x, 1, 9, 10, 1, 1);
+        Check.manIs(x, 1, 10, 10, -1, 0);
+        Check.manIs(x, 1, 12, 10, -1, 0);
+        Check.manIs(x, 1, 13, 9, -1, 0);
     }
 
     /** Men 0, 2 and 3 come together; man 1 is elsewhere and keeps his bag. */
     static void promise9ThreeHandOnToTheNextGreaterOfThese() {
         PostmenMeet x = Check.road("06;01u00;06u40;05d00;03u05");
-        manIs(x, 0, 4, 6, 1, 0);
-        manIs(x, 2, 4, 6, -1, 2);
-        manIs(x, 3, 4, 6, 1, 3);
+        Check.manIs(x, 0, 4, 6, 1, 0);
+        Check.manIs(x, 2, 4, 6, -1, 2);
+        Check.manIs(x, 3, 4, 6, 1, 3);
         x.law(1, 1);
-        manIs(x, 0, 4, 6, -1, 3);
-        manIs(x, 1, 4, 12, 1, 1);
-        manIs(x, 2, 4, 6, 1, 0);
-        manIs(x, 3, 4, 6, -1, 2);
+        Check.manIs(x, 0, 4, 6, -1, 3);
+        Check.manIs(x, 1, 4, 12, 1, 1);
+        Check.manIs(x, 2, 4, 6, 1, 0);
+        Check.manIs(x, 3, 4, 6, -1, 2);
     }
 
     /** They come to pace 6 one after the other and stay, so that two, three, .., six meet there. */
@@ -234,7 +222,7 @@ public final class WalkEdgesTest {
         PostmenMeet x = sixGather(0);
         int[] bags = {0, 1, 2, 3, 5, 4};
         for (int man = 0; man < 6; man++) {
-            manIs(x, man, 12, 12, 1, bags[man]);
+            Check.manIs(x, man, 12, 12, 1, bags[man]);
         }
     }
 
@@ -243,7 +231,7 @@ public final class WalkEdgesTest {
         int[] bags = {4, 0, 3, 1, 5, 2};
         int[] facing = {-1, 1, -1, 1, 1, 1};
         for (int man = 0; man < 6; man++) {
-            manIs(x, man, 12, 12, facing[man], bags[man]);
+            Check.manIs(x, man, 12, 12, facing[man], bags[man]);
         }
     }
 
@@ -251,18 +239,18 @@ public final class WalkEdgesTest {
 
     static void promise10AtTimes0And400() {
         PostmenMeet x = Check.road(FROM_BOTH_ENDS);
-        bagIs(x, 0, 0, 0, 0);
-        bagIs(x, 1, 0, 32, 1);
-        bagIs(x, 0, 399, 15, 0);
-        bagIs(x, 0, 400, 16, 1);
-        bagIs(x, 1, 400, 16, 0);
+        Check.bagIs(x, 0, 0, 0, 0);
+        Check.bagIs(x, 1, 0, 32, 1);
+        Check.bagIs(x, 0, 399, 15, 0);
+        Check.bagIs(x, 0, 400, 16, 1);
+        Check.bagIs(x, 1, 400, 16, 0);
     }
 
     static void promise10BehindWhatIsDoneAtThatHalfMinute() {
         PostmenMeet x = Check.road(FROM_BOTH_ENDS);
-        bagIs(x, 0, 15, 15, 0);
-        bagIs(x, 0, 16, 16, 1);
-        bagIs(x, 0, 17, 17, 1);
+        Check.bagIs(x, 0, 15, 15, 0);
+        Check.bagIs(x, 0, 16, 16, 1);
+        Check.bagIs(x, 0, 17, 17, 1);
     }
 
     static void promise10NoOtherTime() {
@@ -316,8 +304,8 @@ public final class WalkEdgesTest {
         metIs(x, 0, 1, 9, 0);
         metIs(x, 0, 1, 10, 1);
         metIs(x, 0, 1, 16, 1);
-        manIs(x, 0, 16, 10, -1, 1);
-        manIs(x, 0, 17, 9, -1, 1);
+        Check.manIs(x, 0, 16, 10, -1, 1);
+        Check.manIs(x, 0, 17, 9, -1, 1);
     }
 
     static void promise11OnceWhileTheyWalkTogether() {
@@ -326,10 +314,10 @@ public final class WalkEdgesTest {
         metIs(x, 0, 1, 5, 0);
         metIs(x, 0, 1, 6, 1);
         metIs(x, 0, 1, 400, 1);
-        manIs(x, 0, 11, 7, 1, 1);
-        manIs(x, 1, 11, 7, 1, 0);
-        manIs(x, 0, 25, 19, -1, 1);
-        manIs(x, 1, 25, 19, -1, 0);
+        Check.manIs(x, 0, 11, 7, 1, 1);
+        Check.manIs(x, 1, 11, 7, 1, 0);
+        Check.manIs(x, 0, 25, 19, -1, 1);
+        Check.manIs(x, 1, 25, 19, -1, 0);
     }
 
     /** They part, and come together once more. */
@@ -396,6 +384,18 @@ public final class WalkEdgesTest {
         metIs(x, 1, 2, 30, 3);
     }
 
+    /** Men 0 and 2 meet on one place, men 1 and 3 on another. */
+    static void promise12OnTwoPlacesAtOneTime() {
+        PostmenMeet x = Check.road("20;00u00;10u00;04d00;14d00");
+        meetingsAre(x, 3, 0);
+        meetingsAre(x, 4, 2);
+        metIs(x, 0, 2, 4, 1);
+        metIs(x, 1, 3, 4, 1);
+        metIs(x, 0, 1, 4, 0);
+        Check.manIs(x, 2, 4, 4, 1, 0);
+        Check.manIs(x, 3, 4, 24, 1, 1);
+    }
+
     /** Two who walk together come upon two others who do. */
     static void promise12TwoAndTwo() {
         PostmenMeet x = Check.road("20;00u00;03u05;20d00;17d05");
@@ -413,7 +413,7 @@ public final class WalkEdgesTest {
         int[] facing = {-1, -1, 1, 1};
         int[] bags = {2, 1, 0, 3};
         for (int man = 0; man < 4; man++) {
-            manIs(x, man, 24, 20, facing[man], bags[man]);
+            Check.manIs(x, man, 24, 20, facing[man], bags[man]);
         }
     }
 
@@ -575,15 +575,15 @@ public final class WalkEdgesTest {
     /** Once a round man 0 changes bags with man 1, who stands at the end. */
     static void promise16WithTheBagsOfThen() {
         PostmenMeet x = lawOfTwo("05;05u40;01u00", 2);
-        manIs(x, 0, 20, 10, 1, 1);
-        manIs(x, 1, 20, 2, 1, 0);
+        Check.manIs(x, 0, 20, 10, 1, 1);
+        Check.manIs(x, 1, 20, 2, 1, 0);
         againIs(x, 40);
     }
 
     static void promise16WhenTheyMeetAtOnce() {
         PostmenMeet x = Check.road("03;01u00;02d00");
-        manIs(x, 0, 0, 2, 1, 0);
-        manIs(x, 0, 1, 3, -1, 1);
+        Check.manIs(x, 0, 0, 2, 1, 0);
+        Check.manIs(x, 0, 1, 3, -1, 1);
         againIs(x, 12);
     }
 
